@@ -668,9 +668,8 @@ public final class GloveHours {
             return right[one] == right[other] ? CAN_BE : TWO_HOURS;
         }
 
-        /** One more wear of the pair that his right is of. */
-        void useRight(int courtier) {
-            int hour = rightOf(courtier);
+        /** One more wear of a pair that he owns; it may be torn by that. */
+        void usePair(int courtier, int hour) {
             if (!owns(courtier, hour)) {
                 return;
             }
@@ -842,8 +841,6 @@ public final class GloveHours {
 
         Day() {
             court = new Court();
-            stoppedAct = NONE;
-            stoppedWhy = NONE;
             deedHours = new int[MOST_DEEDS];
             deedClocks = new int[MOST_DEEDS];
             deedCourtiers = new int[MOST_DEEDS];
@@ -944,11 +941,12 @@ public final class GloveHours {
             if (!isWithin(deeds, 0, MOST_DEEDS - 1)) {
                 return;
             }
-            deedHours[deeds] = court.rightOf(courtier);
+            int hour = court.rightOf(courtier);
+            deedHours[deeds] = hour;
             deedClocks[deeds] = court.clock;
             deedCourtiers[deeds] = courtier;
             deeds++;
-            court.useRight(courtier);
+            court.usePair(courtier, hour);
         }
 
         private boolean isDeed(int k) {
@@ -1114,7 +1112,7 @@ public final class GloveHours {
     private static final class Chances {
         long whole;
         long deedsDone;
-        // One place more than there can be pairs: it stays 0.
+        // One place more than there can be pairs: that one stays 0.
         private final long[] left;
 
         Chances() {
@@ -1134,8 +1132,8 @@ public final class GloveHours {
             }
         }
 
+        // Where no pair is left none comes back, so that left[0] need not be told.
         private void tryDeed(int tenths) {
-            left[0] = 10 * left[0] + tenths * left[1];
             for (int k = 1; k < MOST_PAIRS + 1; k++) {
                 left[k] = (10 - tenths) * left[k] + tenths * left[k + 1];
             }

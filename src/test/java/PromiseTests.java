@@ -118,12 +118,16 @@ public final class PromiseTests {
         same("2 right", x.told(61), 24);
         same("2 scandals", x.told(62), 0);
         same("2 wear at first", x.told(623), 0);
-        doDay(x, "Fr03Fl04F!.", 4);
+        doDay(x, "Fr00F!Fr03Fl04F!.", 6);
+        same("2 before: wear of hour 0", x.told(600), 1);
         same("2 before: wear", x.told(603), 1);
         same("2 before: scandals", x.told(62), 1);
         same("2 anew", x.courtier(5, hours(3, 4)), 2);
         same("2 anew: pairs", x.behind(5, 3), hours(3, 4));
         same("2 anew: wear", x.told(603), 0);
+        x.courtier(5, hours(0, 3, 4));
+        same("2 anew: wear of hour 0", x.told(600), 0);
+        x.courtier(5, hours(3, 4));
         same("2 anew: left", x.told(60), 24);
         same("2 anew: right", x.told(61), 24);
         same("2 anew: scandals", x.told(62), 0);
@@ -148,6 +152,8 @@ public final class PromiseTests {
         same("3 leave(6)", x.leave(6), UNKNOWN);
         same("3 leave(32)", x.leave(33), UNKNOWN);
         same("3 his pairs are gone", x.all(hours(5), 0), NONE);
+        same("3 his pairs can not be given", x.can(5, 2, 0), 0);
+        same("3 his pairs do no deeds", x.match(hours(0, 5, 7), 24, -1), 1);
         same("3 vespers without him", x.vespers(3, 4), 2);
         same("3 wore without him", x.wore(), 10);
         same("3 the last but one", x.leave(3), 1);
@@ -406,6 +412,8 @@ public final class PromiseTests {
         same("10 given with its wear", x.wear(3, 6), 2);
         same("10 given away", x.wear(0, 6), NONE);
         same("10 never owned", x.wear(0, 23), NONE);
+        same("10 hour 0", x.wear(3, 0), 0);
+        same("10 hour 23", x.wear(3, 23), 0);
         day(x, "Ar06Br06AB");
         same("10 a promise wears the first one's", x.wear(0, 6), 1);
         same("10 a promise wears the other one's", x.wear(1, 6), 1);
@@ -632,6 +640,15 @@ public final class PromiseTests {
         same("16 OUTSIDE before UNKNOWN, hours", x.match(-1, 1, 24), OUTSIDE);
         same("16 OUTSIDE before UNKNOWN, v", x.match(1, 0, 24), OUTSIDE);
         same("16 empty, an hour", x.match(0, 1, 0), UNKNOWN);
+        GloveHours y = new GloveHours();
+        y.courtier(0, hours(0, 1));
+        same("16 A alone does v at most", y.match(hours(0, 1), 1, -1), 1);
+        same("16 A alone, the least", y.match(hours(0, 1), 1, 0), 0);
+        same("16 A alone, the next", y.match(hours(0, 1), 1, 1), NONE);
+        y.courtier(5, hours(0, 1, 2));
+        same("16 F behind A", y.match(hours(0, 1, 2), 1, 1), 5);
+        same("16 F is at v", y.match(hours(0, 1, 2), 1, 2), NONE);
+        same("16 F does two", y.match(hours(0, 1, 2), 2, 1), 0);
         doDay(x, "Ar00.", 2);
         same("16 hands and clock are nothing to it", x.match(hours(0, 1, 2), 1, 0), 1);
     }
@@ -804,6 +821,18 @@ public final class PromiseTests {
         same("23 no sights", x.wore(), 11);
         x.seen(6, true);
         same("23 owners", x.wore(), 3);
+        x.seen(7, true);
+        same("23 owners of both", x.wore(), 1);
+        x.forget();
+        x.seen(8, true);
+        x.seen(6, true);
+        same("23 owners of both, told in another order", x.wore(), 2);
+        x.forget();
+        x.seen(7, false);
+        x.seen(0, false);
+        same("23 of neither", x.wore(), 2);
+        x.forget();
+        x.seen(6, true);
         x.seen(8, false);
         same("23 and not 8", x.wore(), 1);
         doDay(x, "B>D08", 1);
@@ -926,6 +955,11 @@ public final class PromiseTests {
         y.courtier(0, 0);
         y.courtier(1, 0);
         same("26 no pairs", y.vespers(0, 5), 0);
+        GloveHours z = new GloveHours();
+        z.courtier(0, 0);
+        z.courtier(1, hours(9));
+        same("26 one pair", z.vespers(1, 5), 5);
+        same("26 none of one pair", z.vespers(0, 5), 0);
         same("26 no pairs, the other", y.vespers(1, 5), 0);
     }
 
