@@ -3,11 +3,17 @@ final class Due {
     private static final int MOST_PRINTED = 40;
 
     private final String name;
+    private String sentence = "";
     private int right;
     private int wrong;
 
     Due(String name) {
         this.name = name;
+    }
+
+    /** The sentence of the document that the answers from here on are of. */
+    void sentence(String words) {
+        sentence = "\"" + words + "\": ";
     }
 
     void same(String call, long got, long want) {
@@ -17,7 +23,7 @@ final class Due {
         }
         wrong++;
         if (wrong <= MOST_PRINTED) {
-            System.out.println(name + ": " + call + " answered " + got + ", due is " + want);
+            System.out.println(name + ": " + sentence + call + " answered " + got + ", due is " + want);
         }
     }
 

@@ -46,11 +46,7 @@ public final class PromiseTests {
     }
 
     private static int hours(int... hours) {
-        int bits = 0;
-        for (int hour : hours) {
-            bits |= 1 << hour;
-        }
-        return bits;
+        return Play.hours(hours);
     }
 
     private static void same(String call, long got, long want) {
