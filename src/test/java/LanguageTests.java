@@ -2,6 +2,10 @@ import java.io.IOException;
 import java.nio.file.Files;
 import java.nio.file.Path;
 import java.util.List;
+import java.util.Map;
+import java.util.Set;
+import java.util.TreeMap;
+import java.util.TreeSet;
 import java.util.regex.Matcher;
 import java.util.regex.Pattern;
 
@@ -13,6 +17,7 @@ public final class LanguageTests {
         "Character", "Boolean", "StrictMath", "Objects", "nanoTime", "currentTimeMillis"};
     private static final String[] LIBRARY = {"Integer.bitCount", "Math.min", "Math.max", "System.arraycopy"};
     private static final int LONGEST_METHOD = 60;
+    private static final int DEEPEST_CALLS = 8;
 
     private LanguageTests() {
     }
@@ -36,6 +41,7 @@ public final class LanguageTests {
             due.holds(made.group() + " is made in a constructor", isInConstructor(code, made.start()));
         }
         methods(due, code);
+        depth(due, code);
         due.end();
     }
 
@@ -64,5 +70,34 @@ public final class LanguageTests {
                 begun = -1;
             }
         }
+    }
+
+    /** Methods are told by their names: two of one name count as one that calls all that both call. */
+    private static void depth(Due due, String code) {
+        Map<String, Set<String>> calls = new TreeMap<>();
+        Matcher head = Pattern.compile("(?m)^( {4,8})(?:[\\w\\[\\]]+ )*(\\w+)\\([^)]*\\) \\{$").matcher(code);
+        while (head.find()) {
+            int end = code.indexOf("\n" + head.group(1) + "}", head.end());
+            Matcher call = Pattern.compile("(?<!\\bMath\\.)\\b(\\w+)\\(").matcher(code.substring(head.end(), end));
+            Set<String> called = calls.computeIfAbsent(head.group(2), name -> new TreeSet<>());
+            while (call.find()) {
+                called.add(call.group(1));
+            }
+        }
+        due.holds("methods are found", calls.size() > 80 && calls.containsKey("told") && calls.containsKey("losePair"));
+        for (String name : calls.keySet()) {
+            due.holds(name + " calls " + DEEPEST_CALLS + " deep at most", deepest(calls, name, 1) <= DEEPEST_CALLS);
+        }
+    }
+
+    /** How many calls stand open at once at the most; more than are allowed where one calls itself. */
+    private static int deepest(Map<String, Set<String>> calls, String name, int open) {
+        int most = open;
+        for (String called : calls.get(name)) {
+            if (calls.containsKey(called) && open <= DEEPEST_CALLS) {
+                most = Math.max(most, deepest(calls, called, open + 1));
+            }
+        }
+        return most;
     }
 }

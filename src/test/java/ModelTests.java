@@ -1,9 +1,13 @@
 import java.util.Random;
 
-/** Long runs of drawn calls, each of up to 512 on a new object, against the model; the draws are the same each time. */
+/** Long runs of drawn calls, 512 on each new object, against the model; the draws are the same each time. */
 public final class ModelTests {
     private static final int RUNS = 3000;
     private static final int CALLS = 512;
+    // A step is at most six acts of ten signs, each wiped, a sign and the day's doing: fewer than 70 calls.
+    private static final int LONGEST_STEP = 70;
+    // 5 numbers of all, 3 and 24 of each of six courtiers.
+    private static final int ALL_TOLD = 5 + 6 * 27;
     private static final int LONGEST_MATCH_RUN = 40;
 
     private final Due due;
@@ -74,13 +78,25 @@ public final class ModelTests {
                 same("courtier(" + c + ", " + pairs + ")", x.courtier(c, pairs), model.courtier(c, pairs));
             }
         }
-        while (calls < CALLS - 40 && !due.failed()) {
+        // One run in three leaves room for all that can be told.
+        int rest = run % 3 == 0 ? ALL_TOLD : 0;
+        while (calls < CALLS - rest - LONGEST_STEP && !due.failed()) {
             step();
         }
-        calls = 0;
-        for (int what = -2; what < 700; what++) {
-            same("told(" + what + ") at the end", x.told(what), model.told(what));
+        for (int i = 0; calls < CALLS; i++) {
+            int what = i < rest ? tellable(i) : draw(-2, 700);
+            same("told(" + what + ")", x.told(what), model.told(what));
         }
+        due.same("calls on one object", calls, CALLS);
+    }
+
+    private static int tellable(int i) {
+        if (i < 5) {
+            return i;
+        }
+        int of = 1 + (i - 5) / 27;
+        int what = (i - 5) % 27;
+        return what < 3 ? 10 * of + what : 100 * of + what - 3;
     }
 
     private void step() {
